@@ -1,0 +1,98 @@
+import java.lang.reflect.Field;
+
+/**
+ * Promise 21: the theorem holds whatever is called, so a 0 can only be seen by
+ * reaching into the object and breaking it; the fields are named here for that.
+ */
+public final class SoundTest {
+    private static final Due DUE = new Due("SoundTest");
+
+    private static Object at(Object from, String path) throws ReflectiveOperationException {
+        Object here = from;
+        for (String name : path.split("\\.")) {
+            Field field = here.getClass().getDeclaredField(name);
+            field.setAccessible(true);
+            here = field.get(here);
+        }
+        return here;
+    }
+
+    private static SketchCache some() {
+        SketchCache x = new SketchCache(2, 10, 3);
+        x.run(0, 1, 10);
+        x.run(0, 1, 5);
+        x.add(1);
+        DUE.is("before it is broken", x.sound(), 1);
+        return x;
+    }
+
+    private static void broken() throws ReflectiveOperationException {
+        SketchCache twice = some();
+        int[][] keys = (int[][]) at(twice, "now.cache.parts.keys");
+        keys[1][0] = keys[0][0];
+        DUE.is("a key in two parts", twice.sound(), 0);
+
+        SketchCache twiceInOne = some();
+        int[][] line = (int[][]) at(twiceInOne, "now.cache.parts.keys");
+        line[0][0] = line[0][1];
+        DUE.is("a key twice in one part", twiceInOne.sound(), 0);
+
+        for (int part = 0; part < 3; part++) {
+            SketchCache large = some();
+            ((int[]) at(large, "now.cache.parts.sizes"))[large.key(part, 0)] = 20;
+            DUE.is("more units in part " + part, large.sound(), 0);
+        }
+
+        SketchCache settled = new SketchCache(1, 10, 5);
+        settled.run(0, 1, 10);
+        settled.run(0, 1, 4);
+        DUE.is("protected is full", settled.about(4) * 10 + settled.sound(), 41);
+        int[][] rows = (int[][]) at(settled, "now.cache.parts.keys");
+        int[] counts = (int[]) at(settled, "now.cache.parts.counts");
+        rows[2][4] = rows[1][0];
+        counts[2] = 5;
+        counts[1] = 0;
+        DUE.is("main is within its units, protected is not", settled.sound(), 0);
+
+        SketchCache above = some();
+        ((int[][]) at(above, "now.cache.sketch.counters"))[1][3] = 16;
+        DUE.is("a counter of 16", above.sound(), 0);
+        SketchCache below = some();
+        ((int[][]) at(below, "now.cache.sketch.counters"))[1][3] = -1;
+        DUE.is("a counter of -1", below.sound(), 0);
+        SketchCache forgetful = some();
+        ((int[][]) at(forgetful, "now.cache.sketch.counters"))[0][5] = 0;
+        DUE.is("key 1 was added more often", forgetful.sound(), 0);
+    }
+
+    private static void addedAfterChanges() {
+        SketchCache x = new SketchCache(2, 10, 3);
+        x.run(5, 0, 100);
+        DUE.is("full counters", x.sound(), 1);
+        x.place(0, 5, 40);
+        DUE.is("another place", x.sound(), 1);
+        x.run(5, 0, 9);
+        x.door(0, 5, 90);
+        DUE.is("another bit", x.sound(), 1);
+        x.run(5, 0, 9);
+        x.rule(0, 0);
+        DUE.is("no door", x.sound(), 1);
+        x.run(5, 0, 9);
+        x.rule(1, 1);
+        DUE.is("careful", x.sound(), 1);
+        x.run(5, 0, 20);
+        x.rule(2, 10);
+        x.run(5, 0, 1);
+        DUE.is("aged", x.sound(), 1);
+        x.save(0);
+        x.run(5, 0, 9);
+        x.load(0);
+        DUE.is("loaded", x.sound(), 1);
+    }
+
+    public static void main(String[] args) throws ReflectiveOperationException {
+        broken();
+        addedAfterChanges();
+        DUE.end();
+    }
+}
