@@ -1,5 +1,8 @@
+import java.lang.reflect.Method;
 import java.util.ArrayList;
+import java.util.HashMap;
 import java.util.List;
+import java.util.Map;
 import java.util.Random;
 
 /** Promises 1 to 21 on many runs of mixed calls, against the Model; the seeds are fixed. */
@@ -8,6 +11,8 @@ public final class ModelTest {
         "place", "door", "rule", "size", "access", "run", "add", "estimate", "counter", "bit", "remove",
         "where", "key", "about", "trace", "replay", "kept", "save", "load", "sound"};
     private static final int[] OFTEN = {2, 2, 4, 6, 40, 10, 4, 3, 2, 2, 3, 3, 4, 6, 2, 8, 3, 2, 2, 2};
+    private static final Map<String, Method> REAL_METHODS = methodsOf(SketchCache.class);
+    private static final Map<String, Method> MODEL_METHODS = methodsOf(Model.class);
     private static final int SAVE = 17;
     private static final int LOAD = 18;
 
@@ -26,55 +31,22 @@ public final class ModelTest {
         for (int i = 0; i < 4; i++) saved.add(null);
     }
 
-    private static int ask(SketchCache x, int[] c) {
-        switch (c[0]) {
-            case 0: return x.place(c[1], c[2], c[3]);
-            case 1: return x.door(c[1], c[2], c[3]);
-            case 2: return x.rule(c[1], c[2]);
-            case 3: return x.size(c[1], c[2]);
-            case 4: return x.access(c[1]);
-            case 5: return x.run(c[1], c[2], c[3]);
-            case 6: return x.add(c[1]);
-            case 7: return x.estimate(c[1]);
-            case 8: return x.counter(c[1], c[2]);
-            case 9: return x.bit(c[1]);
-            case 10: return x.remove(c[1]);
-            case 11: return x.where(c[1]);
-            case 12: return x.key(c[1], c[2]);
-            case 13: return x.about(c[1]);
-            case 14: return x.trace(c[1]);
-            case 15: return x.replay(c[1], c[2], c[3], c[4]);
-            case 16: return x.kept(c[1]);
-            case SAVE: return x.save(c[1]);
-            case LOAD: return x.load(c[1]);
-            default: return x.sound();
-        }
+    /** The call of that number, of the class or of the model, with as many of the numbers as it takes. */
+    private static int ask(Object x, int[] call) throws ReflectiveOperationException {
+        boolean real = x instanceof SketchCache;
+        Method method = (real ? REAL_METHODS : MODEL_METHODS).get(NAMES[call[0]]);
+        Object[] numbers = new Object[method.getParameterCount()];
+        for (int i = 0; i < numbers.length; i++) numbers[i] = call[i + 1];
+        return (int) method.invoke(x, numbers);
     }
 
-    private static int ask(Model x, int[] c) {
-        switch (c[0]) {
-            case 0: return x.place(c[1], c[2], c[3]);
-            case 1: return x.door(c[1], c[2], c[3]);
-            case 2: return x.rule(c[1], c[2]);
-            case 3: return x.size(c[1], c[2]);
-            case 4: return x.access(c[1]);
-            case 5: return x.run(c[1], c[2], c[3]);
-            case 6: return x.add(c[1]);
-            case 7: return x.estimate(c[1]);
-            case 8: return x.counter(c[1], c[2]);
-            case 9: return x.bit(c[1]);
-            case 10: return x.remove(c[1]);
-            case 11: return x.where(c[1]);
-            case 12: return x.key(c[1], c[2]);
-            case 13: return x.about(c[1]);
-            case 14: return x.trace(c[1]);
-            case 15: return x.replay(c[1], c[2], c[3], c[4]);
-            case 16: return x.kept(c[1]);
-            default: return x.sound();
-        }
+    private static Map<String, Method> methodsOf(Class<?> c) {
+        Map<String, Method> methods = new HashMap<>();
+        for (Method method : c.getDeclaredMethods()) methods.put(method.getName(), method);
+        return methods;
     }
 
-    private int askModel(int[] c) {
+    private int askModel(int[] c) throws ReflectiveOperationException {
         if (c[0] != SAVE && c[0] != LOAD) {
             log.add(c);
             return ask(model, c);
@@ -173,7 +145,7 @@ public final class ModelTest {
         for (int i = 0; i < 30; i++) due.is(when + " kept(" + i + ")", real.kept(i), model.kept(i));
     }
 
-    public static void main(String[] args) {
+    public static void main(String[] args) throws ReflectiveOperationException {
         Due due = new Due("ModelTest");
         for (int seed = 0; seed < 400; seed++) {
             Random random = new Random(seed);

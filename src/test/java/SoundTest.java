@@ -37,6 +37,14 @@ public final class SoundTest {
         line[0][0] = line[0][1];
         DUE.is("a key twice in one part", twiceInOne.sound(), 0);
 
+        SketchCache leastKey = some();
+        ((int[][]) at(leastKey, "now.cache.parts.keys"))[0][0] = 0;
+        DUE.is("key 0 in two parts", leastKey.sound(), 0);
+
+        SketchCache full = some();
+        ((int[]) at(full, "now.cache.parts.sizes"))[full.key(1, 0)] = 2;
+        DUE.is("one unit too many in main", full.sound(), 0);
+
         for (int part = 0; part < 3; part++) {
             SketchCache large = some();
             ((int[]) at(large, "now.cache.parts.sizes"))[large.key(part, 0)] = 20;
@@ -54,15 +62,20 @@ public final class SoundTest {
         counts[1] = 0;
         DUE.is("main is within its units, protected is not", settled.sound(), 0);
 
-        SketchCache above = some();
-        ((int[][]) at(above, "now.cache.sketch.counters"))[1][3] = 16;
-        DUE.is("a counter of 16", above.sound(), 0);
-        SketchCache below = some();
-        ((int[][]) at(below, "now.cache.sketch.counters"))[1][3] = -1;
-        DUE.is("a counter of -1", below.sound(), 0);
-        SketchCache forgetful = some();
-        ((int[][]) at(forgetful, "now.cache.sketch.counters"))[0][5] = 0;
-        DUE.is("key 1 was added more often", forgetful.sound(), 0);
+        int[][] counters = {{0, 0}, {0, 63}, {1, 3}};
+        for (int[] c : counters) {
+            SketchCache above = some();
+            ((int[][]) at(above, "now.cache.sketch.counters"))[c[0]][c[1]] = 16;
+            DUE.is("a counter of 16", above.sound(), 0);
+            SketchCache below = some();
+            ((int[][]) at(below, "now.cache.sketch.counters"))[c[0]][c[1]] = -1;
+            DUE.is("a counter of -1", below.sound(), 0);
+        }
+        for (int key = 0; key < 2; key++) {
+            SketchCache forgetful = some();
+            ((int[][]) at(forgetful, "now.cache.sketch.counters"))[0][5 * key] = 0;
+            DUE.is("key " + key + " was added more often", forgetful.sound(), 0);
+        }
     }
 
     private static void addedAfterChanges() {
