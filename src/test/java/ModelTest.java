@@ -1,8 +1,6 @@
-import java.lang.reflect.Method;
 import java.util.ArrayList;
-import java.util.HashMap;
+import java.util.Arrays;
 import java.util.List;
-import java.util.Map;
 import java.util.Random;
 
 /** Promises 1 to 21 on many runs of mixed calls, against the Model; the seeds are fixed. */
@@ -11,8 +9,6 @@ public final class ModelTest {
         "place", "door", "rule", "size", "access", "run", "add", "estimate", "counter", "bit", "remove",
         "where", "key", "about", "trace", "replay", "kept", "save", "load", "sound"};
     private static final int[] OFTEN = {2, 2, 4, 6, 40, 10, 4, 3, 2, 2, 3, 3, 4, 6, 2, 8, 3, 2, 2, 2};
-    private static final Map<String, Method> REAL_METHODS = methodsOf(SketchCache.class);
-    private static final Map<String, Method> MODEL_METHODS = methodsOf(Model.class);
     private static final int SAVE = 17;
     private static final int LOAD = 18;
 
@@ -31,19 +27,9 @@ public final class ModelTest {
         for (int i = 0; i < 4; i++) saved.add(null);
     }
 
-    /** The call of that number, of the class or of the model, with as many of the numbers as it takes. */
+    /** The call of that number, which stands before its own numbers. */
     private static int ask(Object x, int[] call) throws ReflectiveOperationException {
-        boolean real = x instanceof SketchCache;
-        Method method = (real ? REAL_METHODS : MODEL_METHODS).get(NAMES[call[0]]);
-        Object[] numbers = new Object[method.getParameterCount()];
-        for (int i = 0; i < numbers.length; i++) numbers[i] = call[i + 1];
-        return (int) method.invoke(x, numbers);
-    }
-
-    private static Map<String, Method> methodsOf(Class<?> c) {
-        Map<String, Method> methods = new HashMap<>();
-        for (Method method : c.getDeclaredMethods()) methods.put(method.getName(), method);
-        return methods;
+        return Calls.ask(x, NAMES[call[0]], Arrays.copyOfRange(call, 1, call.length));
     }
 
     private int askModel(int[] c) throws ReflectiveOperationException {
@@ -122,12 +108,6 @@ public final class ModelTest {
         return new int[] {15, near(random, 0, 5), n, from, to};
     }
 
-    private static String text(int[] call) {
-        StringBuilder text = new StringBuilder(NAMES[call[0]]).append('(');
-        for (int i = 1; i < call.length; i++) text.append(i > 1 ? ", " : "").append(call[i]);
-        return text.append(')').toString();
-    }
-
     /** Whether all that can be asked for without a change is the same. */
     private void compareAll(Due due, String when) {
         for (int what = 0; what <= 15; what++) {
@@ -155,7 +135,7 @@ public final class ModelTest {
             int keys = 3 + random.nextInt(random.nextBoolean() ? 97 : 20);
             for (int i = 0; i < 512; i++) {
                 int[] call = test.someCall(random, keys);
-                String when = "seed " + seed + ", call " + i + ": " + text(call);
+                String when = "seed " + seed + ", call " + i + ": " + Calls.text(NAMES[call[0]], Arrays.copyOfRange(call, 1, call.length));
                 due.is(when, ask(test.real, call), test.askModel(call));
                 if (i % 16 == 15) test.compareAll(due, when + ", then");
             }

@@ -78,34 +78,71 @@ public final class SoundTest {
         }
     }
 
-    private static void addedAfterChanges() {
+    /** Key 5 was added twice: once by the door, once by its counters. */
+    private static SketchCache twice() {
         SketchCache x = new SketchCache(2, 10, 3);
-        x.run(5, 0, 100);
-        DUE.is("full counters", x.sound(), 1);
-        x.place(0, 5, 40);
-        DUE.is("another place", x.sound(), 1);
-        x.run(5, 0, 9);
-        x.door(0, 5, 90);
-        DUE.is("another bit", x.sound(), 1);
-        x.run(5, 0, 9);
-        x.rule(0, 0);
-        DUE.is("no door", x.sound(), 1);
-        x.run(5, 0, 9);
-        x.rule(1, 1);
-        DUE.is("careful", x.sound(), 1);
-        x.run(5, 0, 20);
-        x.rule(2, 10);
-        x.run(5, 0, 1);
-        DUE.is("aged", x.sound(), 1);
-        x.save(0);
-        x.run(5, 0, 9);
-        x.load(0);
-        DUE.is("loaded", x.sound(), 1);
+        x.add(5);
+        x.add(5);
+        DUE.is("estimate", x.estimate(5), 2);
+        return x;
+    }
+
+    private static void lower(String when, SketchCache x, int estimate) {
+        DUE.is(when + ": the estimate is less than it was added", x.estimate(5), estimate);
+        DUE.is(when + ": but not since then", x.sound(), 1);
+        x.add(5);
+        DUE.is(when + ": nor with one more", x.sound(), 1);
+    }
+
+    /** "since the latest aging (or the beginning, or a change of the rules 0 and 1, of places or of bits ..)". */
+    private static void countedSince() {
+        SketchCache place = twice();
+        place.place(1, 5, 40);
+        lower("another place", place, 1);
+        for (int which = 0; which <= 1; which++) {
+            SketchCache bit = twice();
+            bit.door(which, 5, 120);
+            lower("another bit", bit, 1);
+        }
+        SketchCache door = twice();
+        door.rule(0, 0);
+        lower("no door", door, 1);
+        door.rule(0, 1);
+        lower("the door again", door, 3);
+        SketchCache careful = twice();
+        careful.rule(1, 1);
+        lower("careful", careful, 2);
+        SketchCache aged = twice();
+        aged.rule(2, 10);
+        for (int i = 0; i < 8; i++) aged.add(6);
+        lower("aged", aged, 0);
+        SketchCache loaded = new SketchCache(2, 10, 3);
+        loaded.save(0);
+        loaded.add(5);
+        loaded.add(5);
+        loaded.load(0);
+        lower("loaded", loaded, 0);
+    }
+
+    /** "or 15 if that is less": 15 counters without a door are enough for any number of adds. */
+    private static void fifteenIsEnough() {
+        for (int door = 0; door <= 1; door++) {
+            SketchCache x = new SketchCache(2, 10, 3);
+            x.rule(0, door);
+            for (int times = 1; times <= 18; times++) {
+                x.add(5);
+                DUE.is("added " + times + " times", x.sound(), 1);
+            }
+            DUE.is("estimate", x.estimate(5), 15 + door);
+            x.run(5, 0, 100);
+            DUE.is("many times", x.sound(), 1);
+        }
     }
 
     public static void main(String[] args) throws ReflectiveOperationException {
         broken();
-        addedAfterChanges();
+        countedSince();
+        fifteenIsEnough();
         DUE.end();
     }
 }
