@@ -325,6 +325,18 @@ public final class CacheEdgesTest {
         DUE.is("out", x.about(10), 4);
     }
 
+    /** "if not, it goes out": no victim does, though the first one alone would be beaten. */
+    private static void modeSumIsAllOrNone() {
+        SketchCache x = cache(6, 1, SUM);
+        x.run(0, 1, 6);
+        add(x, 1, 1);
+        x.size(50, 2);
+        x.add(50);
+        DUE.is("2 is above 1, but not above 1 and 2", x.access(50), 0);
+        DUE.part("both are spared", x, 1, 2, 3, 4, 0, 1);
+        DUE.is("just the candidate went out", x.about(10), 1);
+    }
+
     /** "of the victims as few as would make room". */
     private static void modeSumTakesAsFew() {
         SketchCache x = cache(10, 1, SUM);
@@ -414,6 +426,7 @@ public final class CacheEdgesTest {
         modeEach();
         modeEachStopsWithRoom();
         modeSum();
+        modeSumIsAllOrNone();
         modeSumTakesAsFew();
         modeSumSparesInBothParts();
         estimatesOfZero();

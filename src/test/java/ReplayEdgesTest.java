@@ -127,6 +127,9 @@ public final class ReplayEdgesTest {
 
     /** "a marked key is not marked any more, and the hand goes on by one", for all of them and for one. */
     private static void marks() {
+        all(2, 2, keys(0, 0, 1, 2), 1, 0, 2);
+        all(2, 2, keys(0, 1, 0, 2), 1, 0, 2);
+        all(2, 2, keys(0, 1, 1, 0, 2), 2, 1, 2);
         all(2, 3, keys(0, 1, 2, 0, 3), 1, 0, 2, 3);
         all(2, 3, keys(0, 1, 2, 0, 3, 4), 1, 0, 3, 4);
         all(2, 3, keys(0, 1, 2, 0, 3, 4, 5), 1, 3, 4, 5);
@@ -158,6 +161,7 @@ public final class ReplayEdgesTest {
         all(4, 2, Arrays.copyOf(asked, 4), 1, 0, 2);
         all(4, 2, asked, 1, 1, 2);
         all(4, 2, keys(5, 1, 2, 1), 1, 1, 2);
+        all(4, 2, keys(1, 0, 2, 1, 0), 1, 0, 2);
         all(4, 2, keys(1, 5, 2, 5, 1), 1, 1, 5);
         all(4, 2, keys(5, 1, 2, 1, 5), 1, 2, 5);
         SketchCache x = traced(0, 1, 2, 0, 1);
@@ -186,6 +190,7 @@ public final class ReplayEdgesTest {
     private static void allFourAreFull() {
         all(5, 2, keys(0, 1, 1, 0, 2, 3, 3, 4, 1, 2), 3, 2, 3);
         all(5, 2, keys(0, 0, 1, 1, 2, 3, 0, 4), 2, 0, 4);
+        all(5, 2, keys(0, 1, 1, 2, 2, 0, 3, 4, 1, 3), 2, 1, 3);
     }
 
     /** "(the keys of X by those of V, cut off, 1 at least), n at most". */
@@ -194,6 +199,9 @@ public final class ReplayEdgesTest {
         all(5, 3, keys(0, 0, 1, 2, 3, 1, 4, 4, 5, 2, 3, 1), 3, 1, 3, 5);
         all(5, 5, keys(0, 0, 1, 2, 3, 3, 4, 1, 5, 6, 2, 7, 5, 8, 9, 4, 8, 3), 4, 3, 4, 5, 8, 9);
         all(5, 4, keys(0, 1, 1, 0, 2, 3, 4, 5, 3, 6, 4, 7, 2, 3), 2, 2, 3, 6, 7);
+        all(5, 3, keys(0, 0, 1, 2, 2, 3, 3, 4, 5, 1, 4, 0), 3, 0, 4, 5);
+        all(5, 3, keys(0, 0, 1, 2, 3, 3, 1, 4, 5, 2, 5, 0), 3, 0, 4, 5);
+        all(5, 4, keys(0, 1, 1, 2, 0, 3, 4, 2), 2, 0, 1, 2, 4);
     }
 
     /** "(the keys of V by those of X, cut off, 1 at least), 0 at least". */
@@ -201,6 +209,8 @@ public final class ReplayEdgesTest {
         all(5, 2, keys(0, 0, 1, 2, 1, 0, 3, 4), 1, 0, 4);
         all(5, 5, keys(0, 0, 1, 2, 3, 4, 5, 1, 2, 6, 7, 0, 5), 1, 0, 1, 2, 5, 7);
         all(5, 6, keys(0, 0, 1, 1, 2, 3, 4, 3, 5, 6, 2, 7, 4, 8, 9, 10, 0, 6), 3, 0, 2, 4, 6, 9, 10);
+        all(5, 4, keys(0, 0, 1, 2, 3, 4, 1, 2, 0, 5), 1, 0, 2, 4, 5);
+        all(5, 4, keys(0, 1, 0, 2, 3, 4, 1, 2, 0, 5), 1, 0, 2, 4, 5);
         all(5, 2, keys(0, 0, 1, 1, 2, 0, 3, 2), 2, 2, 3);
         all(5, 2, keys(0, 0, 1, 1, 2, 0, 3, 4), 2, 0, 4);
     }
@@ -212,6 +222,11 @@ public final class ReplayEdgesTest {
     private static void justTheGoal() {
         all(5, 3, keys(0, 0, 1, 2, 3, 1, 2, 0), 1, 0, 1, 2);
         all(5, 2, keys(0, 1, 1, 2, 0), 1, 0, 2);
+        // A new key was not in X, so that T may have just the goal.
+        all(5, 2, keys(0, 1, 0, 2, 1, 3), 1, 2, 3);
+        all(5, 2, keys(0, 1, 1, 0, 2, 3, 1, 2, 4, 5), 2, 4, 5);
+        // T has none, which is just the goal of 0, and the key was in X: U's first goes.
+        all(5, 2, keys(0, 0, 1, 1, 2, 2, 0), 3, 0, 2);
     }
 
     public static void main(String[] args) {
