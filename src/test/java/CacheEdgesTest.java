@@ -395,7 +395,7 @@ public final class CacheEdgesTest {
         DUE.is("just one went out", x.about(10), 1);
     }
 
-    /** "(it does not count as out)", and about 10 counts victims and candidates alike. */
+    /** Parts that remove has emptied have all their room again, and nothing went out. */
     private static void nothingThere() {
         SketchCache x = cache(6, 1, EACH);
         x.run(0, 1, 6);
