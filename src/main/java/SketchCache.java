@@ -259,7 +259,8 @@ public final class SketchCache {
         void moveFirst(int from, int to) {
             int first = keyAt(from, 0);
             if (first != NONE) {
-                moveToLast(to, first);
+                takeOut(first);
+                append(to, first);
             }
         }
 
@@ -401,7 +402,10 @@ public final class SketchCache {
         private int smallestCounter(int key) {
             int smallest = FULL_COUNTER;
             for (int row = 0; row < rows; row++) {
-                smallest = Math.min(smallest, counters[row][places[row][key]]);
+                int count = counters[row][places[row][key]];
+                if (count < smallest) {
+                    smallest = count;
+                }
             }
             return smallest;
         }

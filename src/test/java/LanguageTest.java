@@ -1,18 +1,13 @@
-import java.io.IOException;
 import java.lang.reflect.Constructor;
 import java.lang.reflect.Field;
 import java.lang.reflect.Method;
 import java.lang.reflect.Modifier;
-import java.nio.file.Files;
-import java.nio.file.Path;
 import java.util.ArrayList;
 import java.util.List;
 import java.util.Set;
 import java.util.TreeSet;
-import java.util.regex.Matcher;
-import java.util.regex.Pattern;
 
-/** The document's face, and those rules of LANGUAGE.md that can be seen from outside or in the text. */
+/** The document's face, and those rules of LANGUAGE.md that the compiled class shows; SourceTest has the others. */
 public final class LanguageTest {
     private static final Due DUE = new Due("LanguageTest");
     private static final String[] FACE = {
@@ -62,8 +57,11 @@ public final class LanguageTest {
             if (Modifier.isPublic(method.getModifiers())) names.add(method.getName());
         }
         Set<String> wrong = new TreeSet<>();
-        Class<?>[] inside = SketchCache.class.getDeclaredClasses();
-        for (Class<?> c : inside) {
+        for (Method method : SketchCache.class.getDeclaredMethods()) {
+            boolean named = Modifier.isPrivate(method.getModifiers()) && names.contains(method.getName());
+            if (named) wrong.add("private " + method.getName());
+        }
+        for (Class<?> c : SketchCache.class.getDeclaredClasses()) {
             int m = c.getModifiers();
             if (!Modifier.isStatic(m) || Modifier.isPublic(m) || Modifier.isProtected(m)) wrong.add(c.getName());
             for (Method method : c.getDeclaredMethods()) {
@@ -73,55 +71,13 @@ public final class LanguageTest {
                 boolean fixed = Modifier.isFinal(field.getModifiers());
                 if (Modifier.isStatic(field.getModifiers()) && !fixed) wrong.add(c.getName() + "." + field.getName());
             }
-            if (fieldsBesideConstants(c) > 20) wrong.add(c.getName() + " has too many fields");
         }
-        none("rules 1, 2, 5 and 11", wrong);
-        DUE.is("rule 11: twelve classes at most", inside.length + 1 <= 12 ? 1 : 0, 1);
+        none("rules 1, 2 and 5", wrong);
     }
 
-    private static int fieldsBesideConstants(Class<?> c) {
-        int count = 0;
-        for (Field field : c.getDeclaredFields()) count += Modifier.isStatic(field.getModifiers()) ? 0 : 1;
-        return count;
-    }
-
-    private static void words(String code) {
-        String[] refused = {
-            "\\bthrows?\\b", "\\btry\\b", "\\bcatch\\b", "\\bsynchronized\\b", "\\bassert\\b", "->", "::", "\\w+Exact\\b",
-            "\\bpackage\\b", "\\bRandom\\b", "\\bThread\\b", "\\bcurrentTimeMillis\\b", "\\bnanoTime\\b", "\\bfloat\\b",
-            "\\bhashCode\\b", "\\btoString\\b", "\\bObject\\b", "\\bException\\b", "\\bstatic\\s*\\{", "@\\w+",
-            "\\bSystem\\.(?!arraycopy\\b)", "\\bArrays\\.(?!(fill|copyOf|copyOfRange)\\b)", "\\bimport (?!java\\.util\\.Arrays;)"};
-        Set<String> found = new TreeSet<>();
-        for (String pattern : refused) {
-            Matcher matcher = Pattern.compile(pattern).matcher(code);
-            if (matcher.find()) found.add(matcher.group());
-        }
-        none("rules 4, 6 and 13: words", found);
-    }
-
-    /** Counts from a line that opens a method to the line that closes it at the same depth. */
-    private static void lengths(List<String> lines) {
-        Pattern opens = Pattern.compile("^( {4}| {8})[a-zA-Z].*\\(.*\\) \\{$");
-        Set<String> wrong = new TreeSet<>();
-        for (int i = 0; i < lines.size(); i++) {
-            Matcher matcher = opens.matcher(lines.get(i));
-            if (!matcher.matches()) continue;
-            int end = i;
-            while (end < lines.size() && !lines.get(end).equals(matcher.group(1) + "}")) end++;
-            if (end - i + 1 > 60) wrong.add(lines.get(i).trim());
-            if (lines.get(i).split(",").length > 7) wrong.add(lines.get(i).trim());
-        }
-        none("rule 11: long methods, or of more than seven parameters", wrong);
-    }
-
-    public static void main(String[] args) throws IOException, ReflectiveOperationException {
-        Path file = Path.of("src/main/java/SketchCache.java");
-        String text = Files.readString(file);
-        String code = text.replaceAll("(?s)/\\*.*?\\*/", "").replaceAll("//[^\n]*", "");
+    public static void main(String[] args) throws ReflectiveOperationException {
         face();
         classes();
-        words(code);
-        lengths(List.of(code.split("\n")));
         DUE.end();
     }
 }
