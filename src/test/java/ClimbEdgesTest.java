@@ -121,6 +121,34 @@ public final class ClimbEdgesTest {
         }
     }
 
+    /** "the period before it (0 for the first one)", and about 14, "(0: none)", once the periods count anew. */
+    private static void firstOneAnew() {
+        int[][] told = {{STEP, 1}, {STEP, 2}, {PERIOD, 5}, {PERIOD, 6}};
+        for (int[] t : told) {
+            String when = "rule(" + t[0] + ", " + t[1] + ")";
+            SketchCache x = withHits(2, 1);
+            five(x, 3);
+            period("the period before had 3", x, 0, 0, 3);
+            x.rule(t[0], t[1]);
+            period(when + ": none before", x, 0, 0, 0);
+            x.run(50, 0, t[0] == PERIOD ? t[1] : 5);
+            window(when + ": no hit is not fewer than 0", x, 3 + (t[0] == STEP ? t[1] : 1), 1);
+        }
+        SketchCache off = withHits(2, 1);
+        five(off, 3);
+        off.rule(STEP, 0);
+        period("STEP 0", off, 0, 0, 0);
+        off.rule(STEP, 1);
+        five(off, 0);
+        window("and 1 again", off, 4, 1);
+        SketchCache kept = withHits(2, 1);
+        five(kept, 3);
+        DUE.is("a rule that is BAD", kept.rule(STEP, 21), SketchCache.BAD);
+        period("the period before stays", kept, 0, 0, 3);
+        five(kept, 2);
+        window("fewer than 3", kept, 2, -1);
+    }
+
     /** A rule that is BAD, or another rule, does not begin anything anew. */
     private static void notAnew() {
         SketchCache x = climbing(50, 5, 3, 10);
@@ -389,6 +417,7 @@ public final class ClimbEdgesTest {
         leastAndMostPeriod();
         withinOneRun();
         countedAnew();
+        firstOneAnew();
         notAnew();
         fewerHits();
         theLastAccessCounts();
